@@ -22,7 +22,7 @@ public final class GuideTest {
     private static void type() {
         RumourDesk desk = new RumourDesk();
         due("n 0", BAD, desk.type('w', 0));
-        due("n 9", BAD, desk.type('w', 9));
+        due("n 9", BAD, desk.type(0x7777777777777777L, 9));
         due("n -1", BAD, desk.type('w', -1));
         due("byte 31", BAD, desk.type(31, 1));
         due("byte 127", BAD, desk.type(127, 1));

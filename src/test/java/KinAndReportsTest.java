@@ -83,19 +83,21 @@ public final class KinAndReportsTest {
         due("of another saying", 0, desk.versions(1));
     }
 
+    private static void tree(RumourDesk desk, int[] versions, int[] joined, int sum) {
+        due("how many versions", versions.length, desk.versions(0));
+        for (int i = 0; i < versions.length; i++) {
+            due("version " + i, versions[i], desk.version(0, i, 0));
+            due("version " + i + " is joined to", joined[i], desk.version(0, i, 1));
+        }
+        due("the sum", sum, desk.kin(0));
+    }
+
     private static void square() {
         RumourDesk desk = withOneWhoKnows();
         int b = teach(desk, 0, 1);
         teach(desk, b, 4);
         teach(desk, 0, 4);
-        int[] want = {0, 1, 1000, 1001};
-        int[] joined = {NONE, 0, 0, 1};
-        due("four versions", 4, desk.versions(0));
-        for (int i = 0; i < 4; i++) {
-            due("version " + i, want[i], desk.version(0, i, 0));
-            due("version " + i + " is joined to", joined[i], desk.version(0, i, 1));
-        }
-        due("the sum", 3, desk.kin(0));
+        tree(desk, new int[] {0, 1, 1000, 1001}, new int[] {NONE, 0, 0, 1}, 3);
     }
 
     /** 0000, 0011, 0100, 0121: the third comes in ahead of the second; the last is as near to both. */
@@ -105,14 +107,7 @@ public final class KinAndReportsTest {
         due("the second", 11, desk.knows(b, 0, 2));
         teach(desk, 0, 2);
         teach(desk, b, 2, 3);
-        int[] want = {0, 11, 100, 121};
-        int[] joined = {NONE, 0, 0, 1};
-        due("four versions", 4, desk.versions(0));
-        for (int i = 0; i < 4; i++) {
-            due("version " + i, want[i], desk.version(0, i, 0));
-            due("version " + i + " is joined to", joined[i], desk.version(0, i, 1));
-        }
-        due("the sum", 5, desk.kin(0));
+        tree(desk, new int[] {0, 11, 100, 121}, new int[] {NONE, 0, 0, 1}, 5);
     }
 
     private static void twelveAtMost() {
