@@ -7,6 +7,7 @@ public final class KinAndReportsTest {
         versions();
         square();
         anchorIsTheFirst();
+        farApart();
         twelveAtMost();
         kinWrongly();
         report();
@@ -108,6 +109,15 @@ public final class KinAndReportsTest {
         teach(desk, 0, 2);
         teach(desk, b, 2, 3);
         tree(desk, new int[] {0, 11, 100, 121}, new int[] {NONE, 0, 0, 1}, 5);
+    }
+
+    private static void farApart() {
+        RumourDesk three = withOneWhoKnows();
+        teach(three, 0, 4, 3, 2);
+        tree(three, new int[] {0, 111}, new int[] {NONE, 0}, 3);
+        RumourDesk four = withOneWhoKnows();
+        teach(four, 0, 4, 3, 2, 1);
+        tree(four, new int[] {0, 1111}, new int[] {NONE, 0}, 4);
     }
 
     private static void twelveAtMost() {
@@ -275,6 +285,12 @@ public final class KinAndReportsTest {
         desk.clear();
         desk.report(5, 0, true);
         due("at 0", 4, desk.first(0));
+        desk.clear();
+        desk.report(5, 23, false);
+        due("nobody there at the end of the day", 11, desk.first(0));
+        desk.report(0, 23, false);
+        desk.report(3, 23, false);
+        due("nobody at any home then", 8, desk.first(0));
         due("of nothing", BAD, desk.first(1));
         due("of -1", BAD, desk.first(-1));
         RumourDesk full = new RumourDesk();
@@ -348,6 +364,11 @@ public final class KinAndReportsTest {
         due("what -1", BAD, desk.posts(1, -1));
         due("no sayings", 0, desk.posts(2, 1));
         due("the least", 3, desk.posts(2, 0));
+        for (int s = 0; s < 8; s++) {
+            desk.plain(0, 0, 0, 0);
+        }
+        due("eight that nobody tells", 192, desk.posts(1, 1));
+        due("the least again", 1, desk.posts(1, 0));
     }
 
     private static void check() {

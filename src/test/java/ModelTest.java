@@ -75,6 +75,9 @@ public final class ModelTest {
             due("person", model.person(0, 0, 0, 0, 0), desk.person(0, 0, 0, 0, 0));
             due("hours", model.hours(1), desk.hours(1));
             set(teller, 3, 0);
+            if (random.nextInt(3) == 0) {
+                begin(random.nextInt(p), 0);
+            }
             for (int i = 0; i <= 12; i += 1 + random.nextInt(4)) {
                 due("version 0 " + i + " 1", model.version(0, i, 1), desk.version(0, i, 1));
             }
@@ -331,7 +334,7 @@ public final class ModelTest {
                 break;
             }
             case 45:
-                if (random.nextInt(8) == 0) {
+                if (random.nextInt(3) == 0) {
                     due("first " + s, model.first(s), desk.first(s));
                 }
                 break;
