@@ -864,11 +864,11 @@ public final class RumourDesk {
             }
         }
 
-        /** How many clauses the text has, or its fault; an empty text is a guide without any. */
+        /** How many clauses the text has, or its fault; a text of blanks at most is a guide without any. */
         int readInto(Guide guide) {
             guide.empty();
             at = 0;
-            if (length > 0 && !readClauses(guide)) {
+            if (next() != END && !readClauses(guide)) {
                 return FIRST_FAULT - at;
             }
             return guide.clauses;
@@ -1248,12 +1248,12 @@ public final class RumourDesk {
             }
         }
 
-        /** Whether n items from i on are in the row; n is not below 0. */
+        /** Whether n items from i on are in the row, i not behind its end even for n 0; n is not below 0. */
         boolean spans(int i, int n) {
             return i >= 0 && n <= length && i <= length - n;
         }
 
-        /** What the machine would find in taking n items, one by one, from a row of a lane; or 0. */
+        /** What the machine would find in taking n items from i on from a row of a lane; or 0. */
         int faultFor(int wanted, int i, int n) {
             if (isMissing()) {
                 return NULL;
@@ -1261,7 +1261,7 @@ public final class RumourDesk {
             if (lane != wanted) {
                 return CAST;
             }
-            return n == 0 || spans(i, n) ? 0 : INDEX;
+            return spans(i, n) ? 0 : INDEX;
         }
 
         static int asItem(int lane, int v) {

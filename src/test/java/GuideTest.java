@@ -7,6 +7,7 @@ public final class GuideTest {
         type();
         faults();
         faultKeepsTheGuide();
+        blanksAlone();
         tests();
         brackets();
         days();
@@ -46,7 +47,7 @@ public final class GuideTest {
 
     private static void faults() {
         String[] wrong = {
-            " ", "w", "w=", "w=3", "w=3:", "w=3:d;", "w=3:d@", "w=3 ", "w=3:d@ ", "w=3:d ; ",
+            "w", "w=", "w=3", "w=3:", "w=3:d;", "w=3:d@", "w=3 ", "w=3:d@ ", "w=3:d ; ",
             "x", "W=3:d", "w3:d", "w==3:d", "w=a:d", "w=:d", "w=3d", "w=33:d", "w=3 3:d", "w=3:x",
             "w=3:dd", "w=3:d:d", "w=3:d@a", "w=3:d@-1", "w=3:d@417", "w=3:d@ 417", "w=3:d@999999999999",
             "w=3:d@4 1", "w=3:d@1x", "w=3:d@1@1", "w=3:d;;w=3:d", ";w=3:d", "w=3&:d", "w=3|:d", "w=3&|w=3:d",
@@ -54,7 +55,7 @@ public final class GuideTest {
             "(((((w=3&(w=3))))):d", "w!=3:d", "w=!3:d", "w=3!:d", "w>=3:d", "w=3:d@1;@", "& w=3:d", "w(=3)",
             "w=3:d@0000417", "~", "w=3:d@1,", "w=3:@1", "w=3:d w=3:d", "   x   "};
         int[] places = {
-            1, 1, 2, 3, 4, 6, 6, 4, 7, 8,
+            1, 2, 3, 4, 6, 6, 4, 7, 8,
             0, 0, 1, 2, 2, 2, 3, 3, 4, 4,
             5, 5, 6, 6, 6, 7, 6,
             8, 7, 7, 6, 0, 4, 4, 4,
@@ -87,6 +88,23 @@ public final class GuideTest {
         due("no why", NONE, desk.why(0, 0));
         due("the tape is empty behind a guide", 1, Checks.guide(desk, "w=3:s"));
         due("one byte more", 1, desk.type('w', 1));
+    }
+
+    private static void blanksAlone() {
+        for (int n = 1; n <= 120; n++) {
+            RumourDesk desk = new RumourDesk();
+            desk.plain(3, 5, 7, 1);
+            Checks.guide(desk, "w=3:h;w=3:s");
+            due(n + " blanks", 0, Checks.guide(desk, " ".repeat(n)));
+            due("no clauses", 0, desk.count(2));
+            due("no clause in force", NONE, desk.why(0, 0));
+            due("no act", NONE, desk.why(0, 1));
+            due("the tape is empty behind them", 1, desk.type('w', 1));
+        }
+        due("blanks round a guide", 1, Checks.guide(new RumourDesk(), "  w=3:d  "));
+        due("blanks where a clause is due", -20 - 8, Checks.guide(new RumourDesk(), "w=3:d;  "));
+        due("blanks ahead of a wrong byte", -20 - 2, Checks.guide(new RumourDesk(), "  ;"));
+        due("blanks in brackets", -20 - 3, Checks.guide(new RumourDesk(), "(  ):d"));
     }
 
     /** Whether a test holds for the parts 3 5 7 1. */

@@ -1,10 +1,13 @@
 import java.util.Random;
 
-/** Texts for the guide: mostly right ones, at times with one byte wrong, missing or too much. */
+/** Texts for the guide: mostly right ones, at times with one byte wrong, missing or too much, or blanks alone. */
 final class GuideTexts {
     private static final String SIGNS = "wtnp=<>0123456789&|!():;@dhs x~";
 
     static String make(Random random) {
+        if (random.nextInt(40) == 0) {
+            return " ".repeat(1 + random.nextInt(12));
+        }
         StringBuilder text = new StringBuilder();
         int clauses = 1 + random.nextInt(random.nextInt(8) == 0 ? 8 : 4);
         int deepest = random.nextInt(random.nextInt(4) == 0 ? 7 : 3);

@@ -417,7 +417,7 @@ public final class KinAndReportsTest {
         desk.plain(0, 0, 0, 0);
         due("a missing sheet", NULL, desk.check(0, 0, 0, 1, 0));
         desk.sheet(0, 1, 2);
-        due("nobody is there: nothing is taken", NONE, desk.check(0, 0, 0, 1, 9));
+        checkOfNobody(desk);
         Checks.settle(desk, 2, 0, 0, 0);
         due("saying 1", BAD, desk.check(1, 0, 0, 1, 0));
         due("saying -1", BAD, desk.check(-1, 0, 0, 1, 0));
@@ -437,5 +437,21 @@ public final class KinAndReportsTest {
         desk.item(0, 1, 1, 1);
         due("INDEX is ahead of a person", INDEX, desk.check(0, 0, 0, 1, 1));
         due("a person", 1, desk.check(0, 0, 0, 1, 0));
+    }
+
+    /** Sheet 0 has two bytes, and nobody is there: the told row must still begin in it. */
+    private static void checkOfNobody(RumourDesk desk) {
+        for (int i = 0; i <= 2; i++) {
+            due("nobody, from item " + i, NONE, desk.check(0, 0, 0, 1, i));
+        }
+        int[] behind = {3, 9, 32, Integer.MAX_VALUE, -1, Integer.MIN_VALUE};
+        for (int i : behind) {
+            due("nobody, from item " + i, INDEX, desk.check(0, 48, 0, 1, i));
+        }
+        due("nobody, another lane", CAST, desk.check(0, 0, 0, 2, 9));
+        desk.sheet(3, 2, 0);
+        due("nobody and no items", NONE, desk.check(0, 0, 3, 2, 0));
+        due("nobody, behind no items", INDEX, desk.check(0, 0, 3, 2, 1));
+        due("BAD is ahead of INDEX", BAD, desk.check(0, 49, 3, 2, 1));
     }
 }

@@ -488,7 +488,7 @@ final class Model {
     int guide() {
         String text = tape;
         tape = "";
-        if (text.isEmpty()) {
+        if (text.replace(" ", "").isEmpty()) {
             clauses.clear();
             return 0;
         }
@@ -806,7 +806,10 @@ final class Model {
         return what == 0 ? best : sums[best];
     }
 
-    /** What the machine finds in taking items i .. i + n - 1 of a row as one of a lane; or 0. */
+    /**
+     * What the machine finds in taking items i .. i + n - 1 of a row as one of a lane; or 0. For n 0 it
+     * is a part without items, which must begin in the row or at its end.
+     */
     private int finds(Object row, int lane, int i, int n) {
         try {
             for (int k = 0; k < n; k++) {
@@ -830,7 +833,10 @@ final class Model {
         }
         boolean isOfLane = lane == 0 ? row instanceof boolean[] : lane == 1 ? row instanceof byte[]
             : row instanceof int[];
-        return isOfLane ? 0 : -12;
+        if (!isOfLane) {
+            return -12;
+        }
+        return in(i, 0, java.lang.reflect.Array.getLength(row)) ? 0 : -13;
     }
 
     int check(int saying, int h, int sheet, int lane, int i) {

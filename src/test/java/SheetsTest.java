@@ -188,7 +188,7 @@ public final class SheetsTest {
         RumourDesk desk = new RumourDesk();
         due("a missing sheet", NULL, desk.reads(0, 0));
         desk.sheet(0, 0, 3);
-        due("nobody is there: nothing is taken", 0, desk.reads(0, 9));
+        readsOfNobody(desk);
         Checks.settle(desk, 2, 0, 0, 0);
         desk.item(0, 0, 2, 1);
         due("item 2", INDEX, desk.reads(0, 2));
@@ -200,5 +200,21 @@ public final class SheetsTest {
         due("CAST is ahead of INDEX", CAST, desk.reads(1, 9));
         due("sheet 4", BAD, desk.reads(4, 0));
         due("sheet -1", BAD, desk.reads(-1, 0));
+    }
+
+    /** Sheet 0 has three booleans, and nobody is there: the row must still begin in it. */
+    private static void readsOfNobody(RumourDesk desk) {
+        for (int i = 0; i <= 3; i++) {
+            due("nobody, from item " + i, 0, desk.reads(0, i));
+        }
+        int[] behind = {4, 9, 32, Integer.MAX_VALUE, -1, Integer.MIN_VALUE};
+        for (int i : behind) {
+            due("nobody, from item " + i, INDEX, desk.reads(0, i));
+        }
+        desk.sheet(2, 1, 3);
+        due("nobody, another lane", CAST, desk.reads(2, 9));
+        desk.sheet(2, 0, 0);
+        due("nobody and no items", 0, desk.reads(2, 0));
+        due("nobody, behind no items", INDEX, desk.reads(2, 1));
     }
 }
