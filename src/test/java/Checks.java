@@ -49,4 +49,30 @@ final class Checks {
             desk.hours(Math.min(left, 96));
         }
     }
+
+    /** A desk with saying 0, all parts 0, that person 0 believes; nobody is loud. */
+    static RumourDesk withOneWhoKnows() {
+        RumourDesk desk = new RumourDesk();
+        desk.person(0, 0, 0, 0, 0);
+        desk.plain(0, 0, 0, 0);
+        desk.begin(0, 0);
+        return desk;
+    }
+
+    /** A new person takes saying 0 from one teller alone, changed by habits in turn. */
+    static int teach(RumourDesk desk, int teller, int... habits) {
+        int from = teller;
+        for (int i = 0; i < habits.length; i++) {
+            desk.set(from, 3, 9);
+            desk.set(from, 1, habits[i]);
+            int taught = desk.person(0, 0, 0, 0, 0);
+            desk.hours(1);
+            desk.set(from, 3, 0);
+            if (i > 0) {
+                desk.begin(from, 0);
+            }
+            from = taught;
+        }
+        return from;
+    }
 }

@@ -30,32 +30,6 @@ public final class KinAndReportsTest {
         CHECKS.due(call, want, got);
     }
 
-    /** A desk with saying 0, all parts 0, that person 0 believes; nobody is loud. */
-    private static RumourDesk withOneWhoKnows() {
-        RumourDesk desk = new RumourDesk();
-        desk.person(0, 0, 0, 0, 0);
-        desk.plain(0, 0, 0, 0);
-        desk.begin(0, 0);
-        return desk;
-    }
-
-    /** A new person takes saying 0 from one teller alone, changed by habits in turn. */
-    private static int teach(RumourDesk desk, int teller, int... habits) {
-        int from = teller;
-        for (int i = 0; i < habits.length; i++) {
-            desk.set(from, 3, 9);
-            desk.set(from, 1, habits[i]);
-            int taught = desk.person(0, 0, 0, 0, 0);
-            desk.hours(1);
-            desk.set(from, 3, 0);
-            if (i > 0) {
-                desk.begin(from, 0);
-            }
-            from = taught;
-        }
-        return from;
-    }
-
     private static void versions() {
         RumourDesk desk = new RumourDesk();
         Checks.settle(desk, 3, 0, 9, 0);
@@ -94,49 +68,49 @@ public final class KinAndReportsTest {
     }
 
     private static void square() {
-        RumourDesk desk = withOneWhoKnows();
-        int b = teach(desk, 0, 1);
-        teach(desk, b, 4);
-        teach(desk, 0, 4);
+        RumourDesk desk = Checks.withOneWhoKnows();
+        int b = Checks.teach(desk, 0, 1);
+        Checks.teach(desk, b, 4);
+        Checks.teach(desk, 0, 4);
         tree(desk, new int[] {0, 1, 1000, 1001}, new int[] {NONE, 0, 0, 1}, 3);
     }
 
     /** 0000, 0011, 0100, 0121: the third comes in ahead of the second; the last is as near to both. */
     private static void anchorIsTheFirst() {
-        RumourDesk desk = withOneWhoKnows();
-        int b = teach(desk, 0, 3, 4);
+        RumourDesk desk = Checks.withOneWhoKnows();
+        int b = Checks.teach(desk, 0, 3, 4);
         due("the second", 11, desk.knows(b, 0, 2));
-        teach(desk, 0, 2);
-        teach(desk, b, 2, 3);
+        Checks.teach(desk, 0, 2);
+        Checks.teach(desk, b, 2, 3);
         tree(desk, new int[] {0, 11, 100, 121}, new int[] {NONE, 0, 0, 1}, 5);
     }
 
     private static void farApart() {
-        RumourDesk three = withOneWhoKnows();
-        teach(three, 0, 4, 3, 2);
+        RumourDesk three = Checks.withOneWhoKnows();
+        Checks.teach(three, 0, 4, 3, 2);
         tree(three, new int[] {0, 111}, new int[] {NONE, 0}, 3);
-        RumourDesk four = withOneWhoKnows();
-        teach(four, 0, 4, 3, 2, 1);
+        RumourDesk four = Checks.withOneWhoKnows();
+        Checks.teach(four, 0, 4, 3, 2, 1);
         tree(four, new int[] {0, 1111}, new int[] {NONE, 0}, 4);
     }
 
     private static void twelveAtMost() {
-        RumourDesk desk = withOneWhoKnows();
+        RumourDesk desk = Checks.withOneWhoKnows();
         int last = 0;
         for (int i = 1; i <= 9; i++) {
-            last = teach(desk, last, 4);
+            last = Checks.teach(desk, last, 4);
         }
         due("ten", 10, desk.versions(0));
         due("nine changes", 9, desk.kin(0));
         for (int i = 1; i <= 9; i++) {
             due("all are joined to the first", 0, desk.version(0, i, 1));
         }
-        last = teach(desk, last, 3);
+        last = Checks.teach(desk, last, 3);
         due("its version", 19, desk.knows(last, 0, 2));
         due("eleven", 11, desk.versions(0));
         due("it is joined to the like one", 9, desk.version(0, 10, 1));
         for (int i = 0; i < 3; i++) {
-            last = teach(desk, last, 4);
+            last = Checks.teach(desk, last, 4);
         }
         due("the last version", 12, desk.knows(last, 0, 2));
         due("fourteen, of which twelve", 12, desk.versions(0));
@@ -148,7 +122,7 @@ public final class KinAndReportsTest {
     }
 
     private static void kinWrongly() {
-        RumourDesk desk = withOneWhoKnows();
+        RumourDesk desk = Checks.withOneWhoKnows();
         due("versions of nothing", BAD, desk.versions(1));
         due("versions of -1", BAD, desk.versions(-1));
         due("kin of nothing", BAD, desk.kin(1));
@@ -176,7 +150,7 @@ public final class KinAndReportsTest {
     }
 
     private static void clear() {
-        RumourDesk desk = withOneWhoKnows();
+        RumourDesk desk = Checks.withOneWhoKnows();
         due("clear of none", 0, desk.clear());
         desk.report(0, 0, true);
         desk.report(0, 23, true);
@@ -257,7 +231,7 @@ public final class KinAndReportsTest {
     }
 
     private static void couldWrongly() {
-        RumourDesk desk = withOneWhoKnows();
+        RumourDesk desk = Checks.withOneWhoKnows();
         due("no such saying", BAD, desk.could(1, 0, 0));
         due("saying -1", BAD, desk.could(-1, 0, 0));
         due("nobody", BAD, desk.could(0, 1, 0));
