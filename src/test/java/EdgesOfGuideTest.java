@@ -22,6 +22,7 @@ public final class EdgesOfGuideTest {
         digitsAtTheEnds();
         lastClauseOfAll();
         faultAndThenAnother();
+        guideBehindGuide();
         EDGES.end();
     }
 
@@ -294,11 +295,11 @@ public final class EdgesOfGuideTest {
                     int[] parts = {9 - v, 9 - v, 9 - v, 9 - v};
                     parts[part] = v;
                     desk.plain(parts[0], parts[1], parts[2], parts[3]);
-                    Checks.guide(desk, name + "=" + digit + ":d");
+                    due("a guide", 1, Checks.guide(desk, name + "=" + digit + ":d"));
                     due(v + " = " + digit, v == digit ? 0 : Edges.NONE, desk.why(0, 0));
-                    Checks.guide(desk, name + "<" + digit + ":d");
+                    due("another", 1, Checks.guide(desk, name + "<" + digit + ":d"));
                     due(v + " < " + digit, v < digit ? 0 : Edges.NONE, desk.why(0, 0));
-                    Checks.guide(desk, name + ">" + digit + ":d");
+                    due("a third", 1, Checks.guide(desk, name + ">" + digit + ":d"));
                     due(v + " > " + digit, v > digit ? 0 : Edges.NONE, desk.why(0, 0));
                 }
             }
@@ -336,5 +337,22 @@ public final class EdgesOfGuideTest {
         }
         due("another guide", 1, Checks.guide(desk, "w=3:s"));
         due("its act", 2, desk.why(0, 1));
+    }
+
+    /** Nothing of a former guide, nor of a text with a fault behind whole clauses, is in the next one. */
+    private static void guideBehindGuide() {
+        RumourDesk desk = new RumourDesk();
+        desk.plain(3, 0, 0, 0);
+        for (int n = 1; n <= 24; n++) {
+            int clauses = 1 + n % 6;
+            String text = "w=3&t=1|n=0:d;".repeat(clauses - 1) + (n % 2 == 0 ? "w=3&t=1|n=1:s" : "w=3|t=1&n=1:s");
+            due("guide " + n, clauses, Checks.guide(desk, text));
+            due("its clauses", clauses, desk.count(2));
+            due("the last that holds", n % 2 == 1 ? clauses - 1 : clauses > 1 ? clauses - 2 : Edges.NONE, desk.why(0, 0));
+            if (n % 4 == 0) {
+                due("a fault behind two", -20 - 12, Checks.guide(desk, "w=3:h;w=3:h;"));
+                due("the guide stays", clauses, desk.count(2));
+            }
+        }
     }
 }

@@ -25,6 +25,7 @@ public final class EdgesOfHoursTest {
         wordingOfLikeOnes();
         planByTrying();
         planOfLikeOnes();
+        planByTheShortWording();
         EDGES.end();
     }
 
@@ -480,6 +481,17 @@ public final class EdgesOfHoursTest {
             due("47 hours are too few to forget", want == Edges.BAD ? want : set & ~8, desk.plan(set, 48));
             desk.hours(1);
             due("48 are enough, denied or not", want == Edges.BAD ? want : 0, desk.plan(set, 48));
+        }
+    }
+
+    /** "all denied at NOW in WORDING 0": FORCE 3 must do, though FORCE 5 would. */
+    private static void planByTheShortWording() {
+        for (int trust = 0; trust <= 99; trust++) {
+            for (int fear = 0; fear <= 9; fear++) {
+                RumourDesk desk = withSaying(0, 0, 0);
+                reading(desk, trust, fear, true);
+                due("trust " + trust + ", fear " + fear, 3 * trust > 20 * fear ? 1 : 0, desk.plan(1, 0));
+            }
         }
     }
 }

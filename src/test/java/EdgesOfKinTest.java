@@ -7,7 +7,9 @@ public final class EdgesOfKinTest {
     public static void main(String[] args) {
         noneToSixteenVersions();
         likeOnesCountOnce();
+        oneToFourChanges();
         noneToTwelveReports();
+        clearedReportsCountNoMore();
         loudFromTheBeginningOn();
         placesOfOneWhoBegan();
         heardInAnHourToldInTheNext();
@@ -88,6 +90,19 @@ public final class EdgesOfKinTest {
         due("one change", 1, desk.kin(1));
     }
 
+    /** "Two are as far as PARTS differ": by one part up to all four, whatever the parts are. */
+    private static void oneToFourChanges() {
+        int[][] habits = {{1}, {4}, {1, 2}, {3, 4}, {1, 2, 3}, {2, 3, 4}, {1, 2, 3, 4}, {4, 3, 2, 1}, {2, 2, 2}};
+        int[] far = {1, 1, 2, 2, 3, 3, 4, 4, 1};
+        for (int i = 0; i < habits.length; i++) {
+            RumourDesk desk = Checks.withOneWhoKnows();
+            Checks.teach(desk, 0, habits[i]);
+            due("two versions", 2, desk.versions(0));
+            due("so many changes", far[i], desk.kin(0));
+            due("the second is joined to the first", 0, desk.version(0, 1, 1));
+        }
+    }
+
     /** "REPORTS 0 .. 11, as they come"; promise 29: "All REPORTS go: how many." */
     private static void noneToTwelveReports() {
         for (int n = 0; n <= 12; n++) {
@@ -102,6 +117,20 @@ public final class EdgesOfKinTest {
             due("none is left", 0, desk.count(3));
             due("it could have begun at any hour", 1, desk.could(0, 0, 23));
             due("a new first one", 0, desk.report(0, 0, true));
+        }
+    }
+
+    private static void clearedReportsCountNoMore() {
+        for (int hour = 0; hour <= 23; hour++) {
+            for (int told = 0; told <= 1; told++) {
+                RumourDesk desk = new RumourDesk();
+                desk.person(told, told, told, 9, 0);
+                desk.plain(0, 0, 0, 0);
+                desk.report(0, hour, told == 1);
+                due("it could not have begun", 0, desk.could(0, 0, 0));
+                due("one goes", 1, desk.clear());
+                due("it could have begun", 1, desk.could(0, 0, 0));
+            }
         }
     }
 
@@ -209,6 +238,9 @@ public final class EdgesOfKinTest {
             due("loud at 23: all " + persons, (1 << persons) - 1, desk.first(0));
             desk.report(5, 0, true);
             due("loud where nobody is", 0, desk.first(0));
+            desk.clear();
+            desk.report(0, 23, false);
+            due("nobody there at the last hour, though they begin then", 0, desk.first(0));
         }
     }
 

@@ -99,6 +99,12 @@ public final class EdgesOfPersonsTest {
             due("kind of " + s, s % 4, desk.told(s, 0));
             due("no denials of " + s, 0, desk.told(s, 8));
         }
+        for (int s = 0; s < 8; s += 4) {
+            due("of which the changed one is", s, desk.told(s + 1, 5));
+            due("of which the planted one is", s + 1, desk.told(s + 2, 5));
+            due("its hour", 9999 - s, desk.told(s + 2, 6));
+            due("whether the true one may be told", s == 0 ? 1 : 0, desk.told(s + 3, 7));
+        }
         due("parts of a planted one of a changed one", 9, desk.told(6, 2));
         due("no saying 8", Edges.BAD, desk.told(8, 0));
         due("sayings", 8, desk.count(1));

@@ -1,7 +1,7 @@
 import java.util.Random;
 
 /**
- * Runs of 512 random calls, each held against the model; the arguments are mostly good ones, at times
+ * Runs of some 480 random calls, each held against the model; the arguments are mostly good ones, at times
  * edges and at times anything at all. The seeds are fixed, so every run of this test is the same.
  */
 public final class ModelTest {
@@ -37,7 +37,8 @@ public final class ModelTest {
         } else if (run % 8 > 0) {
             opening();
         }
-        while (calls < 512) {
+        // What is begun below may take some forty calls, and more than 512 are not promised.
+        while (calls < 512 - 40) {
             call(random.nextInt(64));
         }
     }
@@ -376,7 +377,6 @@ public final class ModelTest {
     private int stateThen(int s, int h, int sheet, int lane, int i, int person) {
         for (int state = 0; state < 3; state++) {
             model.item(sheet, lane, i + person, state);
-            desk.item(sheet, lane, i + person, state);
             if (model.check(s, h, sheet, lane, i) != person) {
                 return state;
             }

@@ -275,6 +275,22 @@ public final class RefusalsTest {
             keeps("plan of a secret alone", NOT, scene, desk -> desk.plan(1 << SECRET, 48));
             keeps("plan of three and a secret", NOT, scene, desk -> desk.plan(1 << SECRET | 7, 0));
         }
+        secretsFromTheFirstToTheLast();
+    }
+
+    private static void secretsFromTheFirstToTheLast() {
+        for (int secret = 0; secret <= 7; secret++) {
+            RumourDesk desk = new RumourDesk();
+            for (int s = 0; s <= 7; s++) {
+                desk.real(0, 0, 0, 0, s != secret);
+            }
+            for (int s = 0; s <= 7; s++) {
+                due("deny " + s + ", the secret is " + secret, s == secret ? NOT : 0, desk.deny(s, 0));
+                due("wording of " + s, s == secret ? NOT : 3, desk.wording(s, 0));
+                due("plan of " + s, s == secret ? NOT : 0, desk.plan(1 << s, 0));
+                due("found " + s, s == secret ? 0 : 1, desk.found(s));
+            }
+        }
     }
 
     /** Promise 18: "CAST: not TRUE." */
