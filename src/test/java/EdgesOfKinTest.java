@@ -130,6 +130,8 @@ public final class EdgesOfKinTest {
                 due("it could not have begun", 0, desk.could(0, 0, 0));
                 due("one goes", 1, desk.clear());
                 due("it could have begun", 1, desk.could(0, 0, 0));
+                desk.report(told, 23, true);
+                due("by the new report alone, too", 1, desk.could(0, 0, 0));
             }
         }
     }

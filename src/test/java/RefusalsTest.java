@@ -59,6 +59,8 @@ public final class RefusalsTest {
                 due("state of saying " + s, s, scene.get().knows(0, s, 0));
             }
             due("may not be told", 0, scene.get().told(SECRET, 7));
+            due("could have begun with some", 1, scene.get().first(0) > 0 ? 1 : 0);
+            due("not with person 0", 0, scene.get().first(0) & 1);
         }
         due("clauses", 3, Scene.BUSY.get().count(2));
         due("hour", 60, Scene.BUSY.get().count(4));
@@ -358,8 +360,8 @@ public final class RefusalsTest {
 
     /** Promise 28: "FULL: 12." */
     private static void twelveReports() {
-        keeps("a thirteenth report", FULL, Scene.FULL, desk -> desk.report(0, 0, true));
-        keeps("a thirteenth report of nobody", FULL, Scene.FULL, desk -> desk.report(5, 23, false));
+        keeps("a thirteenth report", FULL, Scene.FULL, desk -> desk.report(3, 0, true));
+        keeps("a thirteenth report of nobody", FULL, Scene.FULL, desk -> desk.report(1, 23, false));
         RumourDesk desk = Scene.BUSY.get();
         for (int i = 5; i <= 11; i++) {
             due("report " + i, i, desk.report(0, 0, true));

@@ -98,9 +98,12 @@ enum Scene implements Supplier<RumourDesk> {
         desk.hours(10);
     }
 
+    /** Reports that agree with some beginnings and not with others, so that one more or less can be seen. */
     private static void report(RumourDesk desk, int number) {
-        for (int i = 0; i < number; i++) {
-            desk.report(i % 6, 23 - 2 * i, i % 3 == 0);
+        desk.report(1, 23, true);
+        desk.report(4, 9, false);
+        for (int i = 2; i < number; i++) {
+            desk.report(5, 2 * i, false);
         }
     }
 
